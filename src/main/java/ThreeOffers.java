@@ -402,6 +402,7 @@ public final class ThreeOffers {
 
         private final char[] signs = new char[MOST_BYTES];
         int length = 0;
+        /** How many the last reading went through. */
         int lines = 0;
         private int start;
         private int end;
@@ -419,10 +420,11 @@ public final class ThreeOffers {
             rules.setAsAtFirst();
             end = 0;
             goOn();
-            for (lines = 1; lines <= MOST_LINES; lines++) {
+            for (int line = 1; line <= MOST_LINES; line++) {
                 if (!readLine(rules)) return start;
+                lines = line;
                 if (start == length) return NONE;
-                if (lines == MOST_LINES || !pass(";")) return start;
+                if (line == MOST_LINES || !pass(";")) return start;
             }
             return start;
         }

@@ -34,7 +34,8 @@ public final class LanguageTest {
 
     private static void face() {
         Class<?> face = ThreeOffers.class;
-        CHECK.holds("final and public", Modifier.isFinal(face.getModifiers()) && Modifier.isPublic(face.getModifiers()));
+        CHECK.holds("final", Modifier.isFinal(face.getModifiers()));
+        CHECK.holds("public", Modifier.isPublic(face.getModifiers()));
         Set<String> found = new TreeSet<>();
         for (var method : face.getDeclaredMethods()) {
             if (!isOpen(method)) continue;

@@ -58,6 +58,7 @@ public final class PromisesTest {
         due("1 person", x.person(0, 0), UNKNOWN);
         due("1 swaps", x.swaps(0), UNKNOWN);
         due("1 rest", x.rest(1, -1), 625);
+        due("1 rest at once", new ThreeOffers().rest(1, -1), 625);
         due("1 another object", new ThreeOffers().count(1), 0);
     }
 
@@ -127,6 +128,11 @@ public final class PromisesTest {
         due("6 its number", x.person(1, 1), 1);
         for (int what = 2; what <= 4; what++) due("6 nothing yet", x.person(1, what), 0);
         due("6 no week", x.count(0), 0);
+        x.coming(0);
+        x.run(3);
+        x.join(1);
+        due("6 in the room of one that left", x.person(9, 1), 12);
+        for (int what = 2; what <= 4; what++) due("6 nothing yet of its own", x.person(9, what), 0);
     }
 
     private static void run() {
@@ -340,7 +346,8 @@ public final class PromisesTest {
             "noes 1;noes 2", "way 0 any;way 1 bar 7;way 2 fall 7 1", "noes5", "way0bar9"};
         for (String text : right) due("13 " + text, Texts.fault(text), NONE);
         Object[][] wrong = {{"", 0}, {"   ", 3}, {"order", 5}, {"order ", 6}, {"order x", 6}, {"order 1", 6},
-            {"ordertime", 0}, {"Order time", 0}, {"oRder time", 0}, {"order Time", 6}, {"noes", 4}, {"noes x", 5},
+            {"ordertime", 0}, {"orderz time", 0}, {"noes 1a", 6}, {"Order time", 0},
+            {"oRder time", 0}, {"order Time", 6}, {"noes", 4}, {"noes x", 5},
             {"noes 10", 5}, {"noes 009", 5}, {"noes -1", 5}, {"noes 1 1", 7}, {"noes 1x", 6}, {"then", 4},
             {"then time", 5}, {"then endx", 5}, {"then end x", 9}, {"grow 10", 5}, {"grow stay", 5}, {"way", 3},
             {"way any", 4}, {"way 4 any", 4}, {"way 0", 5}, {"way 0 0", 6}, {"way 0 any 1", 10},
@@ -453,6 +460,15 @@ public final class PromisesTest {
         due("17 nothing changed", x.of(0, 5), 22);
         due("17 nothing changed", x.empty(), 1);
         due("17 nothing changed", x.person(0, 4), 1);
+        ThreeOffers falling = Texts.ruled("way 0 fall 20 7; noes 9");
+        falling.worth(0, 0, 6);
+        falling.coming(0);
+        falling.join(0);
+        falling.run(1);
+        due("17 from now on: no, yes, empty", falling.would(3, 1), 1);
+        due("17 two empty", falling.would(3, 2), 2);
+        due("17 two empty again", falling.would(3, 2), 2);
+        due("17 a week is too soon", falling.would(1, 1), 0);
     }
 
     private static void gain() {
