@@ -273,6 +273,28 @@ final class AheadSentences {
         int[] rules = {2, 9, 2, 0};
         for (int what = 0; what <= 3; what++) check.due("rule " + what + " stays", x.rule(what), rules[what]);
         check.due("the way stays", x.way(0, 0), 1);
+        // The first does not take the house and is gone, the second takes it; by any other way one of them would cost.
+        ThreeOffers proud = Texts.ruled("way 0 bar 12");
+        proud.worth(0, 0, 10);
+        proud.join(0);
+        proud.join(1);
+        row(proud, 0);
+        check.due("nobody costs", proud.best(1, 1), 0);
+        Texts.put(proud, "way 0 any");
+        proud.fault();
+        check.due("a text that was only read is not told", proud.best(1, 1), 0);
+        proud.rest(1, -1);
+        check.due("nor is a setting", proud.best(1, 1), 0);
+    }
+
+    /** One of sort 0; a house worth 10 comes in week 0 and one worth 12 in week 1. */
+    private static ThreeOffers waitsForKind1(String rules) {
+        ThreeOffers x = Texts.ruled(rules);
+        x.worth(0, 0, 10);
+        x.worth(0, 1, 12);
+        x.join(0);
+        row(x, 0, 1);
+        return x;
     }
 
     @Holds(promise = 19, says = "that by which n WEEKS COST least;")
@@ -393,6 +415,57 @@ final class AheadSentences {
         x.run(1);
         check.due("from now on 39 are enough", x.rest(39, -1), 125);
         check.due("38 are not", x.rest(38, -1), 500);
+    }
+
+    @Holds(promise = 20, says = "At REST is a SETTING by which, in n WEEKS (1 .. 40) from now on,")
+    static void restAfterChange(Check check) {
+        ThreeOffers x = waitsForKind1("noes 2");
+        check.due("it waits", x.rest(2, -1), 125);
+        x.need(0, 3);
+        check.due("that costs too much", x.rest(2, -1), 500);
+        x.need(0, 1);
+        check.due("it waits again", x.rest(2, -1), 125);
+        x.worth(0, 1, 10);
+        check.due("there is nothing to wait for", x.rest(2, -1), 625);
+        x.worth(0, 1, 12);
+        check.due("there is again", x.rest(2, -1), 125);
+        x.join(0);
+        check.due("two can have both houses", x.rest(2, -1), 500);
+        x = waitsForKind1("noes 2");
+        check.due("it waits", x.rest(2, -1), 125);
+        x.joining(0);
+        check.due("so can one that joins", x.rest(2, -1), 500);
+        x = waitsForKind1("noes 2");
+        check.due("it waits", x.rest(2, -1), 125);
+        x.run(1);
+        check.due("by the rules it did not", x.rest(2, -1), 625);
+        x = new ThreeOffers();
+        x.worth(0, 0, 10);
+        x.worth(0, 1, 12);
+        x.join(0);
+        x.coming(0);
+        check.due("in one week", x.rest(1, -1), 500);
+        check.due("no better house comes", x.rest(2, -1), 500);
+        x.coming(1);
+        check.due("one comes", x.rest(2, -1), 125);
+        x.worth(0, 0, 12);
+        check.due("in one week both are as good", x.rest(1, -1), 625);
+    }
+
+    @Holds(promise = 20, says = "At REST is a SETTING by which, in n WEEKS (1 .. 40) from now on,")
+    static void restByRulesTold(Check check) {
+        ThreeOffers x = waitsForKind1("noes 2");
+        check.due("it waits", x.rest(2, -1), 125);
+        Texts.put(x, "noes 0");
+        x.rules();
+        check.due("who waits is gone", x.rest(2, -1), 500);
+        x.best(2, 0);
+        x.need(0, 1);
+        check.due("rules that were tried are not told", x.rest(2, -1), 500);
+        Texts.put(x, "noes 9");
+        x.fault();
+        x.need(0, 1);
+        check.due("nor is a text that was only read", x.rest(2, -1), 500);
     }
 
     @Holds(promise = 20, says = "no SORT would have a greater GAIN by another of its BARS, the others being as they are.")

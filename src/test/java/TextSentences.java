@@ -237,6 +237,9 @@ final class TextSentences {
         fault(check, "order timetime", 6);
         fault(check, "way 0 bar 123", 10);
         fault(check, "way 0 any bar", 10);
+        fault(check, "noes 1a", 6);
+        fault(check, "then end1", 8);
+        fault(check, "then1end", 4);
     }
 
     @Holds(promise = 13, says = "a number out of its bounds also,")

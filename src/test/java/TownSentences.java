@@ -287,6 +287,10 @@ final class TownSentences {
         check.due("after 200", x.person(0, 2), 99);
         x.join(0);
         check.due("of one that joins later", x.person(1, 2), 0);
+        x.coming(0);
+        x.run(1);
+        x.join(0);
+        check.due("of one that joins when one with 99 has left", x.person(1, 2), 0);
     }
 
     @Holds(promise = 8, says = "NOES, WAITED (0 each)")
@@ -302,6 +306,13 @@ final class TownSentences {
         x.join(1);
         check.due("noes of one that joins later", x.person(1, 3), 0);
         check.due("what it waited", x.person(1, 4), 0);
+        ThreeOffers left = Texts.ruled("noes 1;way 0 bar 1");
+        left.join(0);
+        left.coming(0);
+        left.run(2);
+        left.join(0);
+        check.due("noes of one that joins when one with two is gone", left.person(0, 3), 0);
+        check.due("what it waited", left.person(0, 4), 0);
     }
 
     @Holds(promise = 8, says = "Of the PERSON at a place in ORDER now (from 0): SORT (what 0), NUMBER (1), POINTS (2),"
