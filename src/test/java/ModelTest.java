@@ -178,8 +178,8 @@ public final class ModelTest {
         } else if (which < 74) {
             int what = pick(0, 1);
             due("best " + n + " " + what, x.best(n, what), model.best(n, what));
-        } else if (random.nextInt(3) == 0) {
-            int weeks = pick(1, 12), i = pick(-1, 300);
+        } else {
+            int weeks = pick(1, 40), i = pick(-1, 625);
             due("rest " + weeks + " " + i, x.rest(weeks, i), model.rest(weeks, i));
             due("rest " + weeks + " -1", x.rest(weeks, -1), model.rest(weeks, -1));
         }
